@@ -629,9 +629,8 @@ public final class TheodoliteRow {
         }
 
         private boolean joinsPieces(int taken, int observation) {
-            int[] pieces = piece[taken];
             return net.isInPartOf(observation, datum)
-                    && pieces[net.from[observation]] != pieces[net.to[observation]];
+                    && piece[taken][net.from[observation]] != piece[taken][net.to[observation]];
         }
 
         /** Lifts the piece to which the observation goes onto the one from which it comes. */

@@ -4,6 +4,7 @@ public final class ChecksTest {
         checks();
         scores();
         worstOfAlike();
+        leastScore();
         cleaning();
         bounds();
         wrongInputs();
@@ -72,6 +73,17 @@ public final class ChecksTest {
         exact.observe(1, 0, -4, 5);
         Expect.due("worst(), all exact", TheodoliteRow.NONE, exact::worst);
         Expect.due("clean(0), all exact", 0, () -> exact.clean(0));
+    }
+
+    private static void leastScore() {
+        TheodoliteRow row = Nets.withStations(6);
+        for (int s = 0; s < 6; s++) {
+            row.observe(s, (s + 1) % 6, s == 4 ? 1 : 0, 1);
+        }
+        Expect.due("score(5), 16 times 16 by 166", 1, () -> row.score(5));
+        Expect.due("worst(), all scores are 1", 0, row::worst);
+        Expect.due("clean(1)", 0, () -> row.clean(1));
+        Expect.due("clean(0)", 1, () -> row.clean(0));
     }
 
     private static int worstByScores(TheodoliteRow row) {
