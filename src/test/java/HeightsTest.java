@@ -121,16 +121,17 @@ public final class HeightsTest {
     }
 
     private static void wrongInputs() {
-        TheodoliteRow row = Nets.ring();
-        row.withdraw(1, true);
         int[] noStations = {-1, 3, 6, Integer.MIN_VALUE, Integer.MAX_VALUE};
         for (int station : noStations) {
+            TheodoliteRow row = Nets.ring();
             Nets.dueThrow(row, "height", Expect.INDEX, () -> row.height(station));
             Nets.dueThrow(row, "heightAnew", Expect.INDEX, () -> row.heightAnew(station));
             Nets.dueThrow(row, "free", Expect.INDEX, () -> row.free(station));
             Nets.dueThrow(row, "trees", Expect.INDEX, () -> row.trees(station));
             Nets.dueThrow(row, "residual", Expect.INDEX, () -> row.residual(station));
         }
+        TheodoliteRow row = Nets.ring();
+        row.withdraw(1, true);
         Nets.dueThrow(row, "residual(1), withdrawn", Expect.STATE, () -> row.residual(1));
         Expect.due("residual(0)", 0, () -> row.residual(0));
     }
