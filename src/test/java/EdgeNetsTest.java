@@ -19,6 +19,8 @@ public final class EdgeNetsTest {
         cleanedToTheBound();
         cleanedOneByOne();
         cleanedAndRestored();
+        asked();
+        twoObjects();
         last();
         Expect.finish("EdgeNetsTest");
     }
@@ -391,6 +393,46 @@ public final class EdgeNetsTest {
         dueHeight(row, 1, 9700);
         Expect.due("withdraw(0, false)", true, () -> row.withdraw(0, false));
         Expect.due("all answers as before", before, () -> Nets.allAnswers(row));
+    }
+
+    private static void asked() {
+        Expect.by("state changes are those described: a question changes nothing, in whatever order one asks");
+        TheodoliteRow row = Nets.full();
+        row.datum(2, -7, true);
+        row.withdraw(4, true);
+        String first = Nets.allAnswers(row);
+        Expect.due("all answers, once more", first, () -> Nets.allAnswers(row));
+        TheodoliteRow twin = Nets.full();
+        twin.datum(2, -7, true);
+        twin.withdraw(4, true);
+        for (int o = 13; o >= 0; o--) {
+            int observation = o;
+            Expect.answerOf(() -> twin.checkAnew(observation));
+            Expect.answerOf(() -> twin.score(observation));
+        }
+        Expect.due("all answers of one that was asked backwards", first, () -> Nets.allAnswers(twin));
+    }
+
+    private static void twoObjects() {
+        Expect.by("promise 1: each object begins by itself; two that are used in turn are as each alone");
+        String ring = Nets.allAnswers(Nets.ring());
+        String full = Nets.allAnswers(Nets.full());
+        TheodoliteRow one = Nets.withStations(3);
+        TheodoliteRow other = Nets.full();
+        one.observe(0, 1, 100, 1);
+        Expect.due("all answers of the full net", full, () -> Nets.allAnswers(other));
+        one.observe(1, 2, 50, 1);
+        other.withdraw(13, true);
+        one.observe(2, 0, -147, 1);
+        Expect.due("all answers of the ring", ring, () -> Nets.allAnswers(one));
+        one.go(0);
+        one.go(1);
+        Expect.due("go(5) of the other", 1, () -> other.go(5));
+        Expect.due("end() of the other", 1, other::end);
+        Expect.due("sum()", 100, one::sum);
+        Expect.due("withdraw(13, false) of the other", true, () -> other.withdraw(13, false));
+        Expect.due("all answers of the full net again", full, () -> Nets.allAnswers(other));
+        Expect.due("parts() of a third one", 0, () -> new TheodoliteRow().parts());
     }
 
     private static void last() {

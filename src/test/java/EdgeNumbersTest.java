@@ -11,6 +11,7 @@ public final class EdgeNumbersTest {
         checkAsTold();
         scoresOfZero();
         worst();
+        worstOfSeveralParts();
         greatest();
         Expect.finish("EdgeNumbersTest");
     }
@@ -252,6 +253,26 @@ public final class EdgeNumbersTest {
         row.withdraw(2, false);
         row.withdraw(4, false);
         Expect.due("worst(), restored", 4, row::worst);
+    }
+
+    private static void worstOfSeveralParts() {
+        Expect.by("of alike ones the lowest: also when they are of several parts");
+        TheodoliteRow row = Nets.withStations(4);
+        row.observe(3, 2, 0, 1);
+        row.observe(0, 1, 7, 1);
+        row.observe(0, 1, 1, 1);
+        row.observe(2, 3, 6, 1);
+        for (int o = 0; o < 4; o++) {
+            dueScore(row, o, 180);
+        }
+        Expect.due("worst()", 0, row::worst);
+        row.withdraw(0, true);
+        Expect.due("worst(), without that part's", 1, row::worst);
+        row.withdraw(0, false);
+        row.withdraw(1, true);
+        Expect.due("worst(), without the other part's", 0, row::worst);
+        Expect.due("clean(179)", 1, () -> row.clean(179));
+        Expect.due("withdraw(0, true)", true, () -> row.withdraw(0, true));
     }
 
     private static void greatest() {

@@ -5,6 +5,7 @@ public final class HeightsTest {
         roundedDownBelowZero();
         partsAndDatums();
         weights();
+        leastSum();
         farthest();
         wrongInputs();
         Expect.finish("HeightsTest");
@@ -101,6 +102,45 @@ public final class HeightsTest {
             int station = s;
             Expect.due("height as anew", full.heightAnew(station), () -> full.height(station));
         }
+    }
+
+    /** Nets whose adjusted heights are whole hundredths: no heights beside them have as small a sum. */
+    private static void leastSum() {
+        Expect.by("for which the sum of each weight times the square of the residual is least");
+        dueLeast(3, new int[][] {{0, 1, 100, 1}, {1, 2, 50, 1}, {2, 0, -147, 1}});
+        dueLeast(2, new int[][] {{0, 1, 7, 1}, {1, 0, 9, 3}});
+        dueLeast(4, new int[][] {{0, 1, 5, 2}, {2, 1, -8, 1}, {2, 3, 11, 2}, {0, 3, 6, 1}, {3, 0, 1, 1}});
+    }
+
+    private static void dueLeast(int stations, int[][] observed) {
+        TheodoliteRow row = Nets.withStations(stations);
+        for (int[] one : observed) {
+            row.observe(one[0], one[1], one[2], one[3]);
+        }
+        long[] heights = new long[stations];
+        for (int s = 0; s < stations; s++) {
+            heights[s] = row.height(s);
+        }
+        long least = sumOf(heights, observed);
+        for (int s = 1; s < stations; s++) {
+            for (int shift = -1; shift <= 1; shift += 2) {
+                heights[s] += shift;
+                long beside = sumOf(heights, observed);
+                heights[s] -= shift;
+                int station = s;
+                Expect.due("a greater sum with station " + s + " moved", true, () -> beside > least);
+                Expect.due("its height anew", heights[s], () -> row.heightAnew(station));
+            }
+        }
+    }
+
+    private static long sumOf(long[] heights, int[][] observed) {
+        long sum = 0;
+        for (int[] one : observed) {
+            long residual = heights[one[1]] - heights[one[0]] - 100L * one[2];
+            sum += one[3] * residual * residual;
+        }
+        return sum;
     }
 
     private static void farthest() {
